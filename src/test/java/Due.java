@@ -15,6 +15,10 @@ final class Due {
         System.out.println(call + " answered " + got + ", due is " + want);
     }
 
+    static void is(String call, String got, String want) {
+        is(call + " (" + got + " for " + want + ")", got.equals(want) ? 1 : 0, 1);
+    }
+
     static void holds(String what, boolean holds) {
         is(what, holds ? 1 : 0, 1);
     }

@@ -15,11 +15,34 @@ final class Walks {
         return x;
     }
 
-    /** Roomy, with lay and twist so that a rope of some length takes strands * yarns times this length. */
+    /**
+     * Roomy, with plain numbers: a rope takes strands * yarns * 1.5 of its length, and one of fibre 0
+     * has the quality 100 and the strength strands * yarns * 100.
+     */
     static RopeWalk plain() {
         RopeWalk x = roomy();
         x.set(RopeWalk.LAY, 0);
+        x.set(RopeWalk.TWIST, 50);
+        x.fibre(0, 100, 50);
         return x;
+    }
+
+    /** Plain, with pieces of fibre 0, three strands and a yarn in each, of these lengths. */
+    static RopeWalk withPieces(int... lengths) {
+        RopeWalk x = plain();
+        for (int feet : lengths) {
+            x.lay(0, 3, 1, feet);
+        }
+        return x;
+    }
+
+    /** The lengths of the pieces, as in "100 60 ". */
+    static String lengths(RopeWalk x) {
+        StringBuilder all = new StringBuilder();
+        for (int piece = 0; piece < x.count(1); piece++) {
+            all.append(x.piece(piece, 3)).append(' ');
+        }
+        return all.toString();
     }
 
     /** The last eight characters of a text (or fewer) as the number that put() takes. */
