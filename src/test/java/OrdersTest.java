@@ -9,6 +9,7 @@ public final class OrdersTest {
         promise9ShortestFirst();
         promise9WhatSuits();
         promise9Ends();
+        promise9OfOneFoot();
         promise9WrongInputs();
         promise10Drop();
         promise11Pass();
@@ -168,6 +169,15 @@ public final class OrdersTest {
         Due.is("in pieces", x.account(0, 2), 0);
         int all = x.account(0, 1) + x.account(0, 2) + x.account(0, 3) + x.account(0, 4) + x.account(0, 5);
         Due.is("all yarn", all, x.account(0, 0));
+    }
+
+    private static void promise9OfOneFoot() {
+        RopeWalk x = Walks.withPieces(1);
+        x.order(0, 300, 1, 2, 0, 5);
+        Due.is("fill with one foot", x.fill(0), 1);
+        Due.is("it is gone", x.count(1), 0);
+        Due.is("its yarn is sold", x.account(0, 3), 6);
+        Due.is("and is no end", x.account(0, 5), 0);
     }
 
     private static void promise9WrongInputs() {

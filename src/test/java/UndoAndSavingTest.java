@@ -4,6 +4,8 @@ public final class UndoAndSavingTest {
         promise27Undo();
         promise27EachChange();
         promise27SixStates();
+        promise27ErrorsBetween();
+        promise27AllPlaces();
         promise27WhatIsNoChange();
         promise28Save();
         promise28WrongInputs();
@@ -86,6 +88,52 @@ public final class UndoAndSavingTest {
         }
         Due.is("the seventh is dropped", x.undo(), RopeWalk.NOT_POSSIBLE);
         Due.is("state as before", Walks.seen(x), states[14]);
+    }
+
+    private static void promise27ErrorsBetween() {
+        RopeWalk x = new RopeWalk();
+        String[] states = new String[10];
+        for (int i = 0; i < 10; i++) {
+            states[i] = Walks.seen(x);
+            x.pass(1);
+            x.pass(0);
+            x.spin(0, 0);
+        }
+        for (int i = 9; i > 3; i--) {
+            x.join(0, 0);
+            x.undo();
+            Due.is("state " + i, Walks.seen(x), states[i]);
+        }
+        Due.is("no more", x.undo(), RopeWalk.NOT_POSSIBLE);
+    }
+
+    /** Others take the place of all pieces and orders, and go again. */
+    private static void promise27AllPlaces() {
+        RopeWalk x = Walks.plain();
+        for (int i = 0; i < 12; i++) {
+            x.lay(i % 3, 3 + i % 2, 1 + i % 6, 20 + i);
+            x.order(i % 3, 1 + i, 2 + i, 3 + i, 4 + 3 * i, 5 + i);
+        }
+        x.join(0, 6);
+        x.save(0);
+        String before = Walks.seen(x);
+        for (int i = 11; i >= 0; i--) {
+            x.drop(i % 4);
+        }
+        x.set(RopeWalk.SHORTEST, 60);
+        for (int i = 0; i < 11; i++) {
+            x.test(i % 2 == 0 ? x.count(1) - 1 : 0);
+        }
+        Due.holds("all pieces and orders are gone", x.count(1) == 0 && x.count(2) == 0);
+        for (int i = 0; i < 9; i++) {
+            x.lay(2 - i % 3, 4 - i % 2, 20 + i, 50 + i);
+            x.order(2 - i % 3, 100 + i, 200 + i, 20 - i, 101 - 3 * i, 500 + i);
+        }
+        String behind = Walks.seen(x);
+        x.restore(0);
+        Due.is("restored", Walks.seen(x), before);
+        x.undo();
+        Due.is("undone", Walks.seen(x), behind);
     }
 
     private static void promise27WhatIsNoChange() {

@@ -39,6 +39,12 @@ public final class WhatIfTest {
         Due.is("one foot", x.takes(0, 3, 1, 1, 0), 2);
         Due.is("one foot: yarns", x.takes(0, 3, 1, 1, 1), 4);
         Due.is("one foot: hours", x.takes(0, 3, 1, 1, 3), 1);
+        x.set(RopeWalk.LAY, 1);
+        Due.is("1.01 rounded up", x.takes(0, 3, 1, 1, 0), 2);
+        x.set(RopeWalk.LAY, 0);
+        Due.is("1.00 rounded up", x.takes(0, 3, 1, 1, 0), 1);
+        Due.is("201 of 100 feet for each hour", x.takes(0, 3, 1, 67, 3), 3);
+        Due.is("198 of 100 feet for each hour", x.takes(0, 3, 1, 66, 3), 2);
     }
 
     private static void promise16WrongInputs() {
@@ -198,6 +204,24 @@ public final class WhatIfTest {
         x.order(0, 1, 60, 1, 0, 60);
         // 30 and 60 together, or 90 alone
         isBest("of one order or two", x, 2, 90);
+        x = Walks.withPieces(100);
+        x.order(0, 1, 100, 1, 0, 400);
+        x.order(0, 1, 50, 1, 0, 200);
+        x.order(0, 1, 50, 1, 0, 200);
+        isBest("of one low order or two", x, 1, 400);
+        x = Walks.withPieces(100);
+        x.order(0, 1, 50, 1, 0, 300);
+        x.order(0, 1, 50, 1, 0, 200);
+        x.order(0, 1, 50, 1, 0, 200);
+        x.order(0, 1, 50, 1, 0, 100);
+        isBest("the dearest two, of several the lower ones", x, 3, 500);
+        x = Walks.withPieces(100);
+        x.order(0, 1, 60, 1, 0, 300);
+        x.order(0, 1, 50, 1, 0, 200);
+        x.order(0, 1, 50, 1, 0, 200);
+        x.order(0, 1, 40, 1, 0, 100);
+        // the first with the last, or the two between them: 9 or 6
+        isBest("the lowest mask, not the lowest order", x, 6, 400);
     }
 
     /** Each order is filled as far as it goes, the lower ones first, so that a lower one can take from a higher. */
@@ -255,6 +279,17 @@ public final class WhatIfTest {
         Due.is("one foot", x.fewestJoined(1, 1), 1);
         x.join(0, 2);
         Due.is("with a joined one", x.fewestJoined(1, 158), 2);
+        x.join(0, 2);
+        Due.is("those that are gone are not used", x.fewestJoined(0, 183), RopeWalk.NONE);
+        x.join(0, 1);
+        Due.is("one piece alone", x.fewestJoined(0, 183), RopeWalk.NONE);
+        x = Walks.plain();
+        x.set(RopeWalk.OVERLAP, 1);
+        for (int i = 0; i < 24; i++) {
+            x.lay(0, 3, 1, 11 + i);
+        }
+        Due.is("with 24 pieces", x.fewestJoined(0, 517), 24);
+        Due.is("more than 24 pieces reach", x.fewestJoined(0, 518), RopeWalk.NONE);
     }
 
     private static void promise21WhatIsUsed() {
@@ -299,10 +334,29 @@ public final class WhatIfTest {
         x.pass(9);
         x.set(RopeWalk.FINE, 3);
         Due.is("finesIn(10) later", x.finesIn(10), 150);
+        x.drop(0);
+        Due.is("finesIn(10) without the first", x.finesIn(10), 90);
+        x.drop(0);
+        Due.is("finesIn(10) without both", x.finesIn(10), 0);
+        for (int i = 0; i < 16; i++) {
+            x.order(0, 1, 10, 1, 2 * i, 0);
+        }
+        Due.is("finesIn(20) with 16 orders", x.finesIn(20), 3 * (20 + 5) * 16 / 2);
+        for (int i = 0; i < 6; i++) {
+            x.pass(20);
+        }
+        Due.is("finesIn(1) with 16 orders", x.finesIn(1), 48);
+        for (int i = 0; i < 13; i++) {
+            x.drop(3);
+        }
+        Due.is("finesIn(10) with three", x.finesIn(10), 90);
+        x.drop(0);
+        x.order(0, 1, 10, 3, 0, 0);
+        Due.is("finesIn(10) with five ropes", x.finesIn(10), 150);
         int before = x.count(6);
         x.pass(10);
         Due.is("they are paid", x.count(6) - before, 150);
-        for (int i = 0; i < 49; i++) {
+        for (int i = 0; i < 47; i++) {
             x.pass(60);
         }
         Due.is("today", x.count(0), 2960);

@@ -8,6 +8,7 @@ public final class YarnAndRopesTest {
         promise5Roundings();
         promise5WalkYarnAndHours();
         promise5WrongInputs();
+        promise5AfterOnesThatAreGone();
         promise5TooMany();
         promise6Join();
         promise6Numbers();
@@ -141,6 +142,22 @@ public final class YarnAndRopesTest {
         x.set(RopeWalk.LAY, 0);
         Due.is("lay(0, 3, 40, 2000)", x.lay(0, 3, 40, 2000), 0);
         Due.is("lay(0, 4, 40, 1)", x.lay(0, 4, 40, 1), 1);
+    }
+
+    private static void promise5AfterOnesThatAreGone() {
+        RopeWalk x = Walks.withPieces(40, 50, 60);
+        x.join(1, 2);
+        x.join(0, 1);
+        x.order(0, 1, 138, 1, 1, 0);
+        x.fill(0);
+        Due.is("all are gone", x.count(1), 0);
+        for (int i = 0; i < 3; i++) {
+            x.lay(1, 4, 2, 30);
+            int[] all = {1, 4, 2, 30, 360, 56, 0, 201};
+            for (int what = 0; what < 8; what++) {
+                Due.is("a new one: piece(" + i + ", " + what + ")", x.piece(i, what), all[what]);
+            }
+        }
     }
 
     private static void promise5TooMany() {
