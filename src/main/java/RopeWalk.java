@@ -51,8 +51,8 @@ public final class RopeWalk {
     private final History history = new History();
     private final Yard[] slots = new Yard[SLOTS];
     private final boolean[] saved = new boolean[SLOTS];
-    private final Pad pad = new Pad();
-    private final Reader reader = new Reader(pad);
+    private final Reader reader = new Reader();
+    private final Pad pad = reader.pad;
     private final Trial trial = new Trial();
 
     public RopeWalk() {
@@ -1034,17 +1034,13 @@ public final class RopeWalk {
         static final int MOST_DIGITS = 5;
         static final int MOST_NUMBERS = 4;
 
-        final Pad pad;
+        final Pad pad = new Pad();
         /** The place of the next character; behind a failed read, the fault. */
         int at;
         /** The letter of the job that was read last, and the numbers in it. */
         int kind;
         final int[] numbers = new int[MOST_NUMBERS];
         int found;
-
-        Reader(Pad pad) {
-            this.pad = pad;
-        }
 
         void rewind() {
             at = 0;
