@@ -15,6 +15,13 @@ public final class OrdersTest {
         promise11Pass();
         promise11Fines();
         promise11WrongInputs();
+        promise8Terms();
+        promise8AtTheEndOfTime();
+        promise9NoPieceSuits();
+        promise9OneAndTwenty();
+        promise10WhetherItIsDueOrNot();
+        promise11OneAndSixtyDays();
+        promise11EachDayByItself();
         Due.finish("OrdersTest");
     }
 
@@ -264,5 +271,59 @@ public final class OrdersTest {
         Due.is("pass(1) beyond 3000", x.pass(1), RopeWalk.NOT_POSSIBLE);
         Due.is("pass(61) beyond 3000", x.pass(61), RopeWalk.BAD_VALUE);
         Due.is("today", x.count(0), 3000);
+    }
+
+    private static void promise8Terms() {
+        Script.run("terms: 2 * days, plus 1 if splices are allowed", """
+            pass(7) = 7; order(0, 1, 1, 1, 0, 0) = 0; ofOrder(0, 5) = 7; ofOrder(0, 4) = 0
+            order(0, 1, 1, 1, 1, 0) = 1; ofOrder(1, 5) = 7; ofOrder(1, 4) = 1
+            order(0, 1, 1, 1, 199, 0) = 2; ofOrder(2, 5) = 106; ofOrder(2, 4) = 1
+            order(0, 1, 1, 1, 200, 0) = 3; ofOrder(3, 5) = 107; ofOrder(3, 4) = 0
+            order(0, 1, 1, 1, 201, 0) = 4; ofOrder(4, 5) = 107; ofOrder(4, 4) = 1
+            order(0, 1, 1, 1, 202, 0) = BAD_VALUE; order(0, 1, 1, 1, -1, 0) = BAD_VALUE; order(0, 1, 1, 1, MIN, 0) = BAD_VALUE""");
+    }
+
+    private static void promise8AtTheEndOfTime() {
+        Script.run("an order may be due beyond day 3000", """
+            50 * pass(60); order(0, 1, 1, 1, 200, 0) = 0; ofOrder(0, 5) = 3100; order(0, 1, 1, 1, 0, 0) = 1; ofOrder(1, 5) = 3000""");
+    }
+
+    private static void promise9NoPieceSuits() {
+        Script.run("no piece suits", Walks.withPieces(50, 50), """
+            join(0, 1) = 0; lay(1, 3, 1, 200) = 1
+            order(0, 1, 94, 1, 0, 0) = 0; order(0, 256, 94, 1, 1, 0) = 1; order(0, 1, 95, 1, 1, 0) = 2; order(2, 1, 1, 1, 1, 0) = 3
+            fill(0) = NOT_POSSIBLE; fill(1) = NOT_POSSIBLE; fill(2) = NOT_POSSIBLE; fill(3) = NOT_POSSIBLE; fill(4) = NO_SUCH; fill(-1) = NO_SUCH
+            count(4) = 0; count(2) = 4; lengths() = "94 200"; order(0, 255, 94, 1, 1, 0) = 4; fill(4) = 1; lengths() = "200";""");
+        Script.run("no piece at all", "order(0, 1, 1, 1, 1, 9) = 0; fill(0) = NOT_POSSIBLE; count(8) = 1; ofOrder(0, 3) = 1");
+    }
+
+    private static void promise9OneAndTwenty() {
+        Script.run("one rope, twenty ropes", Walks.withPieces(400), """
+            order(0, 1, 20, 1, 0, 3) = 0; fill(0) = 1; count(2) = 0; count(5) = 3; piece(0, 3) = 380
+            order(0, 1, 20, 20, 0, 3) = 0; fill(0) = 19; ofOrder(0, 3) = 1; count(1) = 0; count(5) = 60; fill(0) = NOT_POSSIBLE
+            lay(0, 3, 1, 20) = 0; fill(0) = 1; count(2) = 0; count(4) = 21; fill(0) = NO_SUCH""");
+        Script.run("twenty ropes at once", Walks.withPieces(400, 410), """
+            order(0, 1, 20, 20, 0, 3) = 0; order(0, 1, 20, 20, 0, 3) = 1; fill(0) = 20; lengths() = "410"; fill(0) = 20; lengths() = "10"
+            count(2) = 0; count(4) = 40; account(0, 5) = 0""");
+    }
+
+    private static void promise10WhetherItIsDueOrNot() {
+        Script.run("FINE for each rope, whether it is due or not", """
+            order(0, 1, 1, 20, 0, 9) = 0; order(0, 1, 1, 1, 2, 9) = 1; order(0, 1, 1, 3, 200, 9) = 2; drop(3) = NO_SUCH; drop(-1) = NO_SUCH
+            drop(2) = 150; count(6) = 150; pass(1) = 1; count(6) = 1150; drop(1) = 50; count(6) = 1200; drop(0) = 1000
+            count(6) = 2200; count(2) = 0; drop(0) = NO_SUCH; count(4) = 0; count(5) = 0; pass(1) = 2; count(6) = 2200""");
+    }
+
+    private static void promise11OneAndSixtyDays() {
+        Script.run("1 to 60 days", """
+            pass(0) = BAD_VALUE; pass(1) = 1; pass(60) = 61; pass(61) = BAD_VALUE; pass(-1) = BAD_VALUE; pass(MAX) = BAD_VALUE
+            pass(MIN) = BAD_VALUE; count(0) = 61; count(8) = 2""");
+    }
+
+    private static void promise11EachDayByItself() {
+        Script.run("days that pass together cost as much as one by one", """
+            order(0, 1, 1, 1, 0, 0); order(0, 1, 1, 2, 2, 0); order(0, 1, 1, 4, 118, 0); order(0, 1, 1, 8, 120, 0); order(0, 1, 1, 16, 122, 0)
+            finesIn(60) = 9100; pass(60) = 60; count(6) = 9100; undo() = 5; count(6) = 0; 60 * pass(1); count(6) = 9100
+            pass(1) = 61; count(6) = 9850; pass(1) = 62; count(6) = 11400""");
     }
 }

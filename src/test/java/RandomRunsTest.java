@@ -1,12 +1,15 @@
 /** Runs of random calls, always the same ones, on RopeWalk and on SlowWalk: each answer has to be the same. */
 public final class RandomRunsTest {
-    private static final int RUNS = 400;
+    private static final int RUNS = 1500;
     private static final int CALLS = 512;
+    /** The most calls that one step makes. */
+    private static final int MOST_AT_ONCE = 90;
 
     private final RopeWalk x = new RopeWalk();
     private final SlowWalk slow = new SlowWalk();
     private final StringBuilder calls = new StringBuilder();
     private long state;
+    private int made;
     private boolean differs;
 
     private RandomRunsTest(int run) {
@@ -21,8 +24,8 @@ public final class RandomRunsTest {
     }
 
     private void compare(int run) {
-        for (int i = 0; i < CALLS && !differs; i++) {
-            if (run % 4 == 3 && i % 40 < 20) {
+        for (int i = 0; made <= CALLS - MOST_AT_ONCE && !differs; i++) {
+            if (run % 4 == 3 && i % 40 < 20 || run % 4 == 2 && i < 60) {
                 changeWhatHelps();
             } else {
                 anyCall();
@@ -57,14 +60,15 @@ public final class RandomRunsTest {
     }
 
     private int nearPiece() {
-        return near(0, Math.max(0, x.count(1) - 1));
+        return near(0, Math.max(0, slow.count(1) - 1));
     }
 
     private int nearOrder() {
-        return near(0, Math.max(0, x.count(2) - 1));
+        return near(0, Math.max(0, slow.count(2) - 1));
     }
 
     private void due(String call, int got, int want) {
+        made++;
         calls.append(call).append(" = ").append(got);
         if (got != want) {
             calls.append(" for ").append(want);
@@ -99,7 +103,7 @@ public final class RandomRunsTest {
             case 15: saving(); break;
             case 16: case 17: text(); break;
             case 18: whatThereIs(); break;
-            case 19: all(); break;
+            case 19: sometimesAll(); break;
             default: whatIf();
         }
     }
@@ -172,7 +176,7 @@ public final class RandomRunsTest {
         if (below(20) == 0) {
             text.setCharAt(below(text.length()), (char) from(0, 255));
         }
-        if (x.count(7) > 0) {
+        if (slow.count(7) > 0) {
             text.insert(0, ';');
         }
         for (int i = 0; i < text.length();) {
@@ -211,16 +215,38 @@ public final class RandomRunsTest {
         due("count(" + other + ")", x.count(other), slow.count(other));
     }
 
+    private void sometimesAll() {
+        switch (below(12)) {
+            case 0: all(); break;
+            case 1: allPiecesAndOrders(); break;
+            default: whatIf();
+        }
+    }
+
+    /** All there is but for pieces and orders, and all of one piece and one order. */
     private void all() {
         for (int what = 0; what < 25; what++) {
             due("count(" + what + ")", x.count(what), slow.count(what));
         }
-        for (int i = 0; i < 24; i++) {
-            for (int what = 0; what < 8; what++) {
-                due("piece(" + i + ", " + what + ")", x.piece(i, what), slow.piece(i, what));
-                due("ofOrder(" + i + ", " + what + ")", x.ofOrder(i, what), slow.ofOrder(i, what));
-                due("account(" + i + ", " + what + ")", x.account(i, what), slow.account(i, what));
+        int piece = nearPiece();
+        int order = nearOrder();
+        for (int what = 0; what < 8; what++) {
+            due("piece(" + piece + ", " + what + ")", x.piece(piece, what), slow.piece(piece, what));
+            due("ofOrder(" + order + ", " + what + ")", x.ofOrder(order, what), slow.ofOrder(order, what));
+            for (int fibre = 0; fibre < 3; fibre++) {
+                due("account(" + fibre + ", " + what + ")", x.account(fibre, what), slow.account(fibre, what));
             }
+        }
+    }
+
+    private void allPiecesAndOrders() {
+        for (int i = 0; i <= slow.count(1); i++) {
+            due("piece(" + i + ", 3)", x.piece(i, 3), slow.piece(i, 3));
+            due("piece(" + i + ", 4)", x.piece(i, 4), slow.piece(i, 4));
+        }
+        for (int i = 0; i <= slow.count(2); i++) {
+            due("ofOrder(" + i + ", 3)", x.ofOrder(i, 3), slow.ofOrder(i, 3));
+            due("ofOrder(" + i + ", 7)", x.ofOrder(i, 7), slow.ofOrder(i, 7));
         }
     }
 

@@ -1,8 +1,9 @@
 import java.lang.management.ManagementFactory;
 
 /**
- * Calls with numbers from everywhere, far more of them than the document has: none may throw (a throw ends the
- * test with an error), and as all rows are made in the constructor, none may make objects.
+ * Runs of 512 calls with numbers from everywhere: none may throw (a throw ends the test with an error), and what a
+ * run makes, the constructor's rows among it, is a small part of the room that there is for a run (some 600,000
+ * objects with 7.3 million fields and elements).
  */
 public final class RoomTest {
     private static final int[] NUMBERS = {
@@ -11,23 +12,52 @@ public final class RoomTest {
         Integer.MIN_VALUE, Integer.MAX_VALUE - 1, Integer.MIN_VALUE + 1
     };
     private static final String TEXTS = "yljtfd0123456789:;x=&+";
-    private static final int CALLS = 200000;
-    private static final long MOST_BYTES = 20000;
+    private static final int RUNS = 500;
+    private static final int CALLS = 512;
+    private static final long MOST_BYTES = 2000000;
 
     private static long state = 1;
 
     public static void main(String[] args) {
-        RopeWalk x = new RopeWalk();
         com.sun.management.ThreadMXBean bean = (com.sun.management.ThreadMXBean) ManagementFactory.getThreadMXBean();
         long me = Thread.currentThread().getId();
+        for (int run = 0; run < RUNS; run++) {
+            long before = bean.getThreadAllocatedBytes(me);
+            run(run % 2 == 0 ? 32 : 64);
+            long bytes = bean.getThreadAllocatedBytes(me) - before;
+            Due.holds("run " + run + " made objects of " + bytes + " bytes", bytes < MOST_BYTES);
+        }
+        dearestRun(bean, me);
+        Due.finish("RoomTest");
+    }
+
+    private static void run(int kinds) {
+        RopeWalk x = new RopeWalk();
+        if (kinds > 32) {
+            x.spin(0, 3000000);
+            x.set(RopeWalk.SPEED, 500);
+        }
+        for (int i = 2; i < CALLS; i++) {
+            int which = below(kinds);
+            call(x, which < 32 ? which : which % 5 + 4);
+        }
+    }
+
+    /** bestSet with all pieces and ten orders that each get two ropes, again and again. */
+    private static void dearestRun(com.sun.management.ThreadMXBean bean, long me) {
         long before = bean.getThreadAllocatedBytes(me);
-        for (int i = 0; i < CALLS; i++) {
-            call(x, below(32));
+        RopeWalk x = Walks.plain();
+        for (int i = 0; i < 24; i++) {
+            x.lay(0, 3, 1, 20);
+        }
+        for (int i = 0; i < 10; i++) {
+            x.order(0, 1, 20, 2, 0, 1 << i);
+        }
+        for (int i = 0; i < 460; i++) {
+            Due.is("bestSet(1)", x.bestSet(1), 2046);
         }
         long bytes = bean.getThreadAllocatedBytes(me) - before;
-        Due.holds(CALLS + " calls made objects of " + bytes + " bytes", bytes < MOST_BYTES);
-        Due.holds("there was some work", x.account(0, 0) != 0);
-        Due.finish("RoomTest");
+        Due.holds("the dearest run made objects of " + bytes + " bytes", bytes < MOST_BYTES);
     }
 
     private static int below(int bound) {

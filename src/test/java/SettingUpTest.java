@@ -13,6 +13,10 @@ public final class SettingUpTest {
         promise2IsAChange();
         promise3Fibre();
         promise3WrongInputs();
+        promise1NothingIsThere();
+        promise2WhatWasUsedStaysKnown();
+        promise2PreviousValues();
+        promise3ReturnsAtTheEnds();
         Due.finish("SettingUpTest");
     }
 
@@ -132,5 +136,47 @@ public final class SettingUpTest {
         Due.is("fibre wrong: count(19)", x.count(19), 60);
         Due.is("fibre wrong: count(22)", x.count(22), 32);
         Due.is("fibre wrong: count(8)", x.count(8), 0);
+    }
+
+    private static void promise1NothingIsThere() {
+        Script.run("a rope walk without yarn, pieces and orders", """
+            longest(0, 3, 1) = NONE; lay(0, 3, 1, 1) = NOT_POSSIBLE; join(0, 1) = NO_SUCH; join(0, 0) = NO_SUCH; test(0) = NO_SUCH
+            fill(0) = NO_SUCH; drop(0) = NO_SUCH; wouldFill(0, 0) = NO_SUCH; fewestJoined(0, 1) = NO_SUCH
+            bestSet(0) = 0; bestSet(1) = 0; finesIn(200) = 0; wipe() = 0; fault() = 0; carryOut() = BAD_TEXT; count(8) = 0
+            pass(1) = 1; count(6) = 0; order(0, 1, 1, 1, 0, 0) = 0; fill(0) = NOT_POSSIBLE; bestSet(0) = 0; bestSet(1) = 0""");
+    }
+
+    private static void promise2WhatWasUsedStaysKnown() {
+        Script.run("HOURS at and below what was used today", Walks.plain(), """
+            lay(0, 4, 1, 2000) = 0; count(3) = 8
+            set(HOURS, 17) = 24; count(3) = 1; set(HOURS, 16) = 17; count(3) = 0; lay(0, 3, 1, 1) = NOT_POSSIBLE; longest(0, 3, 1) = NONE
+            set(HOURS, 15) = 16; count(3) = 0; set(HOURS, 1) = 15; count(3) = 0; longest(0, 3, 1) = NONE
+            set(HOURS, 17) = 1; count(3) = 1; longest(0, 3, 1) = 166; lay(0, 3, 1, 166) = 1; count(3) = 0
+            set(HOURS, 1) = 17; lay(0, 3, 1, 1) = NOT_POSSIBLE; set(HOURS, 24) = 1; count(3) = 7""");
+        Script.run("what was used is known behind undo, save and restore", Walks.plain(), """
+            lay(0, 4, 1, 2000) = 0; set(HOURS, 3) = 24; save(0) = 0; undo() = 5; count(3) = 8; pass(1) = 1; count(3) = 24
+            restore(0) = 0; count(3) = 0; set(HOURS, 18) = 3; count(3) = 2; undo() = 5; undo() = 4; count(3) = 24
+            restore(0) = 0; pass(1) = 1; count(3) = 3""");
+    }
+
+    private static void promise2PreviousValues() {
+        for (int setting = 0; setting < 10; setting++) {
+            RopeWalk x = new RopeWalk();
+            String call = "set(" + setting + ", ..)";
+            Due.is(call + " to the same", x.set(setting, FIRST[setting]), FIRST[setting]);
+            Due.is(call + " to the most", x.set(setting, MOST[setting]), FIRST[setting]);
+            Due.is(call + " that is refused", x.set(setting, Integer.MAX_VALUE), RopeWalk.BAD_VALUE);
+            Due.is(call + " to the least", x.set(setting, LEAST[setting]), MOST[setting]);
+            Due.is(call + " that is refused", x.set(setting, Integer.MIN_VALUE), RopeWalk.BAD_VALUE);
+            Due.is(call + " to the most again", x.set(setting, MOST[setting]), LEAST[setting]);
+            Due.is(call + ": changes", x.count(8), 4);
+        }
+    }
+
+    private static void promise3ReturnsAtTheEnds() {
+        Script.run("100 times the strength before, plus the best twist before", """
+            fibre(2, 200, 60) = 3024; fibre(2, 1, 10) = 20060; fibre(2, 200, 10) = 110; fibre(2, 1, 60) = 20010; fibre(2, 1, 60) = 160
+            fibre(2, 0, 60) = BAD_VALUE; fibre(2, 201, 60) = BAD_VALUE; fibre(2, 1, 9) = BAD_VALUE; fibre(2, 1, 61) = BAD_VALUE
+            fibre(3, 201, 9) = NO_SUCH; fibre(-1, 1, 60) = NO_SUCH; fibre(2, 30, 24) = 160; count(19) = 60; count(20) = 45; count(22) = 32""");
     }
 }

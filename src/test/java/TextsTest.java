@@ -14,6 +14,15 @@ public final class TextsTest {
         promise26UpToTheFirstError();
         promise26BadText();
         promise26IsOneChange();
+        promise23EachCodeAtEachPlace();
+        promise23NothingAboveTheFirst();
+        promise24EmptyAndFull();
+        promise25NumbersAtEachPlace();
+        promise25EachBeginning();
+        promise25OfThePadAsItIs();
+        promise26AnswersOfZero();
+        promise26EachErrorStops();
+        promise26TheLastJob();
         Due.finish("TextsTest");
     }
 
@@ -240,5 +249,133 @@ public final class TextsTest {
         Due.is("today as before", x.count(0), 1);
         Due.is("undo of pass", x.undo(), 0);
         Due.is("today is 0", x.count(0), 0);
+    }
+
+    /** Of one to eight characters each may be 33 to 126; a 0 may stand in front of them alone. */
+    private static void promise23EachCodeAtEachPlace() {
+        int[] wrong = {1, 9, 32, 127, 128, 160, 255};
+        for (int many = 1; many <= 8; many++) {
+            long good = Walks.packed("tttttttt".substring(0, many));
+            for (int place = 0; place < many; place++) {
+                long without = good & ~(255L << 8 * place);
+                for (int code : wrong) {
+                    isPut(without | (long) code << 8 * place, RopeWalk.BAD_VALUE);
+                }
+                isPut(without | 33L << 8 * place, many);
+                isPut(without | 126L << 8 * place, many);
+                isPut(without, place == many - 1 && many > 1 ? many - 1 : RopeWalk.BAD_VALUE);
+            }
+        }
+    }
+
+    private static void isPut(long characters, int due) {
+        RopeWalk x = new RopeWalk();
+        String call = "put(" + Long.toHexString(characters) + ")";
+        Due.is(call, x.put(characters), due);
+        Due.is(call + ": count(7)", x.count(7), Math.max(0, due));
+    }
+
+    /** Behind 8 bits that are 0, each single bit above is wrong. */
+    private static void promise23NothingAboveTheFirst() {
+        for (int many = 1; many <= 7; many++) {
+            long good = Walks.packed("tttttttt".substring(0, many));
+            isPut(good, many);
+            for (int bit = 8 * many + 8; bit < 64; bit++) {
+                isPut(good | 1L << bit, RopeWalk.BAD_VALUE);
+            }
+        }
+        for (int bit = 0; bit < 64; bit++) {
+            isPut(1L << bit, bit == 6 ? 1 : RopeWalk.BAD_VALUE);
+        }
+        isPut(0, RopeWalk.BAD_VALUE);
+        isPut(-1, RopeWalk.BAD_VALUE);
+        isPut(Long.MIN_VALUE, RopeWalk.BAD_VALUE);
+        isPut(Long.MAX_VALUE, RopeWalk.BAD_VALUE);
+    }
+
+    private static void promise24EmptyAndFull() {
+        Script.run("the length that it had", """
+            wipe() = 0; wipe() = 0; put(0x74) = 1; wipe() = 1; wipe() = 0; 10 * put(0x7474747474747474); count(7) = 80; wipe() = 80
+            count(7) = 0; fault() = 0; carryOut() = BAD_TEXT; 10 * put(0x7E7E7E7E7E7E7E7E); put(33) = TOO_MANY; wipe() = 80; count(8) = 0
+            put("d3") = 2; fault() = NONE; carryOut() = 1; count(0) = 3; wipe() = 0; put("d") = 1; put("d") = 2; fault() = 1""");
+    }
+
+    /** A number is 0 to 99999, without leading zeros, wherever one stands: N is where, # the place of the fault. */
+    private static void promise25NumbersAtEachPlace() {
+        String[] texts = {"y2+N", "y0+N;t0", "l2:4xN=7", "l0:3x7=N", "jN&0", "j0&N", "tN", "fN", "dN", "t0;d0;jN&5;f1"};
+        String[] good = {"0", "1", "9", "10", "90", "99", "100", "1000", "10000", "99999", "90000"};
+        String[] wrong = {"0#0", "0#1", "0#9", "0#00", "0#0000", "10000#0", "99999#0", "99999#9", "12345#6", "99999#x", "#-1", "#+1", "#x", "#a",
+            "#/1", "#:1", "#~", "1#-", "1#.", "1#/", "1#~"};
+        for (String text : texts) {
+            int place = text.indexOf('N');
+            for (String number : good) {
+                Due.is("fault with " + number, faultOf(text.replace("N", number)), RopeWalk.NONE);
+            }
+            for (String number : wrong) {
+                String whole = text.replace("N", number.replace("#", ""));
+                Due.is("fault of " + whole, faultOf(whole), place + number.indexOf('#'));
+            }
+        }
+    }
+
+    /** A text that ends too early has its fault at its length, and none where it may end. */
+    private static void promise25EachBeginning() {
+        String text = "y2+90;l1:4x12=345;j10&2;t7;f15;d60;y0+99999";
+        for (int length = 0; length <= text.length(); length++) {
+            String part = text.substring(0, length);
+            boolean whole = part.matches("(.*;)?(y.\\+\\d+|l.:.x\\d+=\\d+|j\\d+&\\d+|[tfd]\\d+)");
+            Due.is("fault of " + part, faultOf(part), whole ? RopeWalk.NONE : length);
+            Due.is("fault of " + part + " and ~", faultOf(part + "~"), length);
+            Due.is("fault of " + part + " and !", faultOf(part + "!"), length);
+        }
+    }
+
+    private static void promise25OfThePadAsItIs() {
+        Script.run("fault of a pad that grows", """
+            fault() = 0; put(0x64) = 1; fault() = 1; put(0x31) = 2; fault() = NONE; put(0x30) = 3; fault() = NONE; put("000") = 6; fault() = NONE
+            put(0x30) = 7; fault() = 6; put(0x3B) = 8; fault() = 6; carryOut() = BAD_TEXT; wipe() = 8; fault() = 0; put(0x3B) = 1; fault() = 0
+            count(8) = 0""");
+    }
+
+    private static void promise26AnswersOfZero() {
+        Script.run("an answer of 0 is no error", Walks.plain(), """
+            set(TEST, 1); fibre(0, 1, 10); put("l0:3x1=20;l0:3x1=20;j1&0;t0;d1") = 30; carryOut() = 5; count(0) = 1; piece(0, 3) = 33; piece(0, 7) = 0""");
+    }
+
+    private static void promise26EachErrorStops() {
+        String[] wrong = {
+            "y0+0", "l0:3x0=20", "l0:3x41=20", "l0:3x1=0", "l0:3x1=2001", "l0:4x1=2000", "l1:4x40=1500", "j0&0", "j0&4", "j4&0", "j0&2", "j0&3",
+            "t4", "t99999", "t3", "f2", "f1", "f99999", "d0", "d61", "d99999"
+        };
+        for (String job : wrong) {
+            RopeWalk x = stopping();
+            String text = "d2;" + job + ";d3";
+            Due.is("put of " + text, Walks.put(x, text), text.length());
+            Due.is("carryOut() of " + text, x.carryOut(), 1);
+            RopeWalk other = stopping();
+            other.pass(2);
+            Due.is("behind " + text, Walks.seen(x), Walks.seen(other));
+            Due.is("the pad behind " + text, x.count(7), 0);
+            Due.is("undo() behind " + text, x.undo(), 5);
+            Due.is("undone: " + text, Walks.seen(x), Walks.seen(stopping()));
+        }
+    }
+
+    private static RopeWalk stopping() {
+        RopeWalk x = Walks.withPieces(50, 60);
+        x.lay(0, 4, 1, 50);
+        x.lay(0, 3, 1, 4);
+        x.set(RopeWalk.WALK, 1400);
+        x.order(0, 1, 20, 2, 0, 5);
+        x.order(0, 1, 61, 2, 0, 5);
+        return x;
+    }
+
+    private static void promise26TheLastJob() {
+        Script.run("an error of the last job, of the first, of none", """
+            put("d1;d2;d61") = 9; carryOut() = 2; count(0) = 3; count(7) = 0; count(8) = 1
+            put("d61;d1;d2") = 9; carryOut() = 0; count(0) = 3; count(7) = 0; count(8) = 2
+            put("d1;d2;d60") = 9; carryOut() = 3; count(0) = 66; count(7) = 0; count(8) = 3; undo() = 2; count(0) = 3; undo() = 1; count(0) = 3
+            undo() = 0; count(0) = 0; carryOut() = BAD_TEXT; count(8) = 0""");
     }
 }

@@ -8,10 +8,16 @@ public final class UndoAndSavingTest {
         promise27AllPlaces();
         promise27WhatIsNoChange();
         promise28Save();
+        promise28Overwrites();
         promise28WrongInputs();
         promise29Restore();
         promise29WhatIsNotSaved();
         promise29WrongInputs();
+        promise27RecordsAlsoIfNothingIsDifferent();
+        promise27PadAndSlotsStay();
+        promise28TwoSlots();
+        promise29NothingWasSaved();
+        promise29IsAChange();
         Due.finish("UndoAndSavingTest");
     }
 
@@ -77,24 +83,26 @@ public final class UndoAndSavingTest {
         RopeWalk x = new RopeWalk();
         String[] states = new String[21];
         for (int i = 0; i < 20; i++) {
-            states[i] = Walks.seen(x);
+            states[i] = stores(x);
             x.spin(i % 3, 100 + i);
             Due.is("count(8) behind " + (i + 1), x.count(8), Math.min(6, i + 1));
         }
         for (int i = 1; i <= 6; i++) {
             Due.is("undo() number " + i, x.undo(), 6 - i);
-            Due.is("state before " + i, Walks.seen(x), states[20 - i]);
+            Due.is("state before " + i, stores(x), states[20 - i]);
             Due.is("count(8)", x.count(8), 6 - i);
         }
         Due.is("the seventh is dropped", x.undo(), RopeWalk.NOT_POSSIBLE);
-        Due.is("state as before", Walks.seen(x), states[14]);
+        Due.is("state as before", stores(x), states[14]);
+    }
+
+    private static String stores(RopeWalk x) {
+        return x.account(0, 1) + " " + x.account(1, 1) + " " + x.account(2, 1);
     }
 
     private static void promise27ErrorsBetween() {
         RopeWalk x = new RopeWalk();
-        String[] states = new String[10];
         for (int i = 0; i < 10; i++) {
-            states[i] = Walks.seen(x);
             x.pass(1);
             x.pass(0);
             x.spin(0, 0);
@@ -102,13 +110,26 @@ public final class UndoAndSavingTest {
         for (int i = 9; i > 3; i--) {
             x.join(0, 0);
             x.undo();
-            Due.is("state " + i, Walks.seen(x), states[i]);
+            Due.is("today, state " + i, x.count(0), i);
         }
         Due.is("no more", x.undo(), RopeWalk.NOT_POSSIBLE);
     }
 
     /** Others take the place of all pieces and orders, and go again. */
     private static void promise27AllPlaces() {
+        String before = Walks.seen(crowded());
+        String behind = Walks.seen(crowdedAgain());
+        RopeWalk x = crowdedAgain();
+        Due.holds("others have come", !before.equals(behind));
+        x.restore(0);
+        Due.is("restored", Walks.seen(x), before);
+        x = crowdedAgain();
+        x.restore(0);
+        x.undo();
+        Due.is("undone", Walks.seen(x), behind);
+    }
+
+    private static RopeWalk crowded() {
         RopeWalk x = Walks.plain();
         for (int i = 0; i < 12; i++) {
             x.lay(i % 3, 3 + i % 2, 1 + i % 6, 20 + i);
@@ -116,7 +137,11 @@ public final class UndoAndSavingTest {
         }
         x.join(0, 6);
         x.save(0);
-        String before = Walks.seen(x);
+        return x;
+    }
+
+    private static RopeWalk crowdedAgain() {
+        RopeWalk x = crowded();
         for (int i = 11; i >= 0; i--) {
             x.drop(i % 4);
         }
@@ -129,11 +154,7 @@ public final class UndoAndSavingTest {
             x.lay(2 - i % 3, 4 - i % 2, 20 + i, 50 + i);
             x.order(2 - i % 3, 100 + i, 200 + i, 20 - i, 101 - 3 * i, 500 + i);
         }
-        String behind = Walks.seen(x);
-        x.restore(0);
-        Due.is("restored", Walks.seen(x), before);
-        x.undo();
-        Due.is("undone", Walks.seen(x), behind);
+        return x;
     }
 
     private static void promise27WhatIsNoChange() {
@@ -176,12 +197,18 @@ public final class UndoAndSavingTest {
         Due.is("slot 0", Walks.seen(x), first);
         x.restore(1);
         Due.is("slot 1", Walks.seen(x), second);
+    }
+
+    private static void promise28Overwrites() {
+        RopeWalk x = busy();
+        x.save(0);
         x.pass(7);
-        String third = Walks.seen(x);
-        Due.is("save(0) over it", x.save(0), 13);
+        change(x, 4);
+        String saved = Walks.seen(x);
+        Due.is("save(0) over it", x.save(0), 7);
         x.pass(1);
-        x.restore(0);
-        Due.is("slot 0 is overwritten", Walks.seen(x), third);
+        Due.is("restore(0)", x.restore(0), 7);
+        Due.is("slot 0 is overwritten", Walks.seen(x), saved);
     }
 
     private static void promise28WrongInputs() {
@@ -244,5 +271,45 @@ public final class UndoAndSavingTest {
         Due.is("restore(2)", x.restore(2), RopeWalk.BAD_VALUE);
         Due.is("restore(0)", x.restore(0), RopeWalk.NOT_POSSIBLE);
         Due.is("restore wrong: count(8)", x.count(8), 0);
+    }
+
+    private static void promise27RecordsAlsoIfNothingIsDifferent() {
+        Script.run("a change records the state also if nothing is different then", """
+            set(FINE, 50) = 50; count(8) = 1; fibre(0, 60, 32) = 6032; count(8) = 2; put("t0") = 2; carryOut() = 0; count(8) = 3
+            save(0) = 0; restore(0) = 0; count(8) = 4; undo() = 3; undo() = 2; undo() = 1; undo() = 0; undo() = NOT_POSSIBLE""");
+        Script.run("states that are the same take their places too", """
+            pass(1) = 1; 5 * set(FINE, 50); count(8) = 6; set(FINE, 50) = 50; count(8) = 6; 6 * undo(); count(0) = 1; undo() = NOT_POSSIBLE""");
+    }
+
+    private static void promise27PadAndSlotsStay() {
+        Script.run("the pad, the slots and the history stay", """
+            pass(5) = 5; put("d1;") = 3; save(1) = 5; undo() = 0; count(0) = 0; count(7) = 3; put("d2") = 5; carryOut() = 2; count(0) = 3
+            put("d3") = 2; undo() = 0; count(0) = 0; count(7) = 2; carryOut() = 1; count(0) = 3; restore(1) = 5; undo() = 1; count(0) = 3
+            undo() = 0; undo() = NOT_POSSIBLE; restore(1) = 5; restore(0) = NOT_POSSIBLE; count(8) = 1""");
+    }
+
+    private static void promise28TwoSlots() {
+        Script.run("slots 0 and 1", """
+            save(-1) = BAD_VALUE; save(2) = BAD_VALUE; save(MIN) = BAD_VALUE; save(MAX) = BAD_VALUE; save(0) = 0; pass(3) = 3; save(1) = 3; pass(4) = 7
+            count(8) = 2; restore(0) = 0; restore(1) = 3; save(0) = 3; pass(1) = 4; restore(0) = 3; pass(2) = 5; save(1) = 5; restore(0) = 3
+            restore(1) = 5; count(0) = 5""");
+        Script.run("what is saved in a slot is not what comes then", Walks.withPieces(50, 60), """
+            order(0, 1, 20, 2, 0, 5) = 0; save(1) = 0; join(0, 1) = 0; drop(0) = 100; spin(0, 9); fibre(0, 1, 10); set(SPLICE, 60); lay(0, 3, 1, 70) = 1
+            restore(1) = 0; lengths() = "50 60"; ofOrder(0, 3) = 2; count(6) = 0; count(19) = 100; count(12) = 15; account(0, 1) = 2999505
+            fill(0) = 2; restore(1) = 0; lengths() = "50 60"; ofOrder(0, 3) = 2; count(4) = 0; piece(0, 4) = 225""");
+    }
+
+    private static void promise29NothingWasSaved() {
+        Script.run("restore of a slot in which nothing was saved", """
+            restore(0) = NOT_POSSIBLE; restore(1) = NOT_POSSIBLE; restore(-1) = BAD_VALUE; restore(2) = BAD_VALUE; restore(MIN) = BAD_VALUE
+            restore(MAX) = BAD_VALUE; save(1) = 0; restore(0) = NOT_POSSIBLE; count(8) = 0; restore(1) = 0; count(8) = 1; restore(0) = NOT_POSSIBLE
+            save(0) = 0; restore(0) = 0; restore(2) = BAD_VALUE; count(8) = 2; undo() = 1; undo() = 0; restore(0) = 0""");
+    }
+
+    private static void promise29IsAChange() {
+        Script.run("restore is a change, and the slot keeps it", """
+            pass(1) = 1; save(0) = 1; pass(1) = 2; restore(0) = 1; count(8) = 3; undo() = 2; count(0) = 2; restore(0) = 1; restore(0) = 1; count(8) = 4
+            pass(9) = 10; restore(0) = 1; restore(0) = 1; count(8) = 6; undo() = 5; count(0) = 1; undo() = 4; count(0) = 10; undo() = 3; count(0) = 1
+            undo() = 2; count(0) = 1; undo() = 1; count(0) = 2; undo() = 0; count(0) = 1; undo() = NOT_POSSIBLE""");
     }
 }

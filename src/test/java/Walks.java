@@ -1,3 +1,5 @@
+import java.util.function.Supplier;
+
 /** What several tests need of a rope walk. */
 final class Walks {
     private Walks() {
@@ -86,5 +88,42 @@ final class Walks {
             }
         }
         return all.toString();
+    }
+
+    /** Three pieces, two orders that can be filled, a full history, both slots, and a pad of three jobs. */
+    static RopeWalk ready() {
+        RopeWalk x = withPieces(100, 50, 70);
+        x.order(0, 10, 20, 2, 4, 5);
+        x.save(1);
+        x.order(0, 20, 30, 4, 1, 6);
+        x.pass(1);
+        x.save(0);
+        x.set(RopeWalk.FINE, 77);
+        put(x, "d1;t0;d2");
+        return x;
+    }
+
+    /**
+     * All that can be seen of a rope walk and what is behind it: its pad, the states of its history and its slots.
+     * Each of them is looked at on an object of its own, as an object has no more than 512 calls.
+     */
+    static String whole(Supplier<RopeWalk> make) {
+        StringBuilder all = new StringBuilder(seen(make.get()));
+        RopeWalk x = make.get();
+        all.append("\nfault ").append(x.fault()).append(" jobs ").append(x.carryOut()).append(": ").append(seen(x));
+        for (int undone = 1; undone <= 7; undone++) {
+            RopeWalk back = make.get();
+            all.append("\nundone ").append(undone).append(": ");
+            for (int i = 0; i < undone; i++) {
+                all.append(back.undo()).append(' ');
+            }
+            all.append(seen(back));
+        }
+        for (int slot = 0; slot < 2; slot++) {
+            RopeWalk back = make.get();
+            all.append("\nslot ").append(slot).append(": ").append(back.restore(slot)).append(' ').append(seen(back));
+        }
+        x = make.get();
+        return all.append("\npad ").append(x.wipe()).append(" changes ").append(x.count(8)).toString();
     }
 }

@@ -19,6 +19,19 @@ public final class WhatIfTest {
         promise22FinesIn();
         promise22WrongInputs();
         nothingChanges();
+        promise16WhateverThereIs();
+        promise17ByEachBound();
+        promise17AtTheEnds();
+        promise18EachStrength();
+        promise18WhateverThereIs();
+        promise19AsFillDoes();
+        promise19NoneAndAll();
+        promise20AsFarAsItGoes();
+        promise20NothingIsGot();
+        promise21AtTheEnds();
+        promise21OfOneKind();
+        promise22FirstAndLastDay();
+        promise22AsPassPays();
         Due.finish("WhatIfTest");
     }
 
@@ -389,5 +402,159 @@ public final class WhatIfTest {
         x.finesIn(100);
         Due.is("what if changes nothing", Walks.seen(x), before);
         Due.is("what if records nothing", x.count(8), changes);
+    }
+
+    private static void promise16WhateverThereIs() {
+        String takes = """
+            takes(0, 4, 40, 2000, 0) = 2240; takes(0, 4, 40, 2000, 1) = 2912; takes(0, 4, 40, 2000, 2) = 465920
+            takes(0, 4, 40, 2000, 3) = 90; takes(0, 4, 40, 2000, 4) = 96; takes(0, 4, 40, 2000, 5) = 9216
+            takes(0, 3, 1, 1, 0) = 2; takes(0, 3, 1, 1, 1) = 3; takes(0, 3, 1, 1, 2) = 9; takes(0, 3, 1, 1, 3) = 1; takes(0, 3, 1, 1, 5) = 172
+            """;
+        Script.run("takes, without yarn, above WALK and HOURS", takes);
+        Script.run("takes, with WALK of 100 and HOURS of 1", "set(WALK, 100); set(HOURS, 1)\n" + takes);
+        Script.run("takes, with 24 pieces", "spin(0, 99999); set(HOURS, 24); 24 * lay(0, 3, 1, 1); count(3) = 0\n" + takes);
+    }
+
+    private static void promise17ByEachBound() {
+        Script.run("the longest by WALK, yarn and hours", Walks.plain(), """
+            set(WALK, 100) = 2000; longest(0, 3, 1) = 100; set(LAY, 1) = 0; longest(0, 3, 1) = 99; set(LAY, 0) = 1; set(WALK, 2000) = 100
+            set(HOURS, 1) = 24; longest(0, 3, 1) = 166; longest(0, 4, 1) = 125; set(SPEED, 498) = 500; longest(0, 3, 1) = 166
+            set(SPEED, 497) = 498; longest(0, 3, 1) = 165; set(HOURS, 24) = 1; set(SPEED, 500) = 497
+            lay(1, 4, 40, 2000) = 0; longest(0, 4, 1) = 1000; longest(0, 3, 1) = 1333""");
+        Script.run("the longest by the yarn", """
+            set(LAY, 0); set(TWIST, 50); spin(0, 449) = 449; longest(0, 3, 1) = 99; spin(0, 1) = 450; longest(0, 3, 1) = 100
+            spin(0, 2) = 452; longest(0, 3, 1) = 100; spin(0, 4) = 456; longest(0, 3, 1) = 101; longest(0, 4, 1) = 76; longest(0, 3, 40) = 2
+            longest(0, 4, 40) = 1; longest(1, 3, 1) = NONE; lay(0, 3, 1, 102) = NOT_POSSIBLE; lay(0, 3, 1, 101) = 0""");
+    }
+
+    private static void promise17AtTheEnds() {
+        Script.run("the longest of all and none", Walks.plain(), """
+            longest(0, 3, 1) = 2000; longest(2, 4, 40) = 2000; set(LAY, 1) = 0; longest(0, 3, 1) = 1980; set(LAY, 0) = 1
+            lay(0, 4, 1, 2000) = 0; lay(0, 4, 1, 1000) = 1; count(3) = 0; longest(0, 3, 1) = NONE; longest(0, 3, 41) = BAD_VALUE
+            pass(1) = 1; longest(0, 3, 1) = 2000; longest(3, 3, 1) = NO_SUCH; longest(0, 2, 1) = BAD_VALUE""");
+        Script.run("the longest of a foot and none", """
+            longest(0, 3, 1) = NONE; spin(0, 8) = 8; longest(0, 3, 1) = NONE; spin(0, 1) = 9; longest(0, 3, 1) = 1; longest(0, 4, 1) = NONE
+            set(SPEED, 10) = 100; set(HOURS, 1) = 12; longest(0, 3, 1) = 1; spin(0, 900) = 909; longest(0, 3, 1) = 2; longest(0, 4, 1) = 1""");
+    }
+
+    /** With a number of yarns a rope has a strength; a bit more takes a yarn more, and with 40 of them there is none. */
+    private static void promise18EachStrength() {
+        for (int fibre = 0; fibre < 3; fibre++) {
+            for (int strands = 3; strands <= 4; strands++) {
+                RopeWalk x = new RopeWalk();
+                for (int yarns = 1; yarns <= 40; yarns++) {
+                    int strength = x.takes(fibre, strands, yarns, 10, 5);
+                    String call = "leastYarns(" + fibre + ", " + strands + ", ";
+                    Due.is(call + strength + ")", x.leastYarns(fibre, strands, strength), yarns);
+                    Due.is(call + (strength + 1) + ")", x.leastYarns(fibre, strands, strength + 1), yarns < 40 ? yarns + 1 : RopeWalk.NONE);
+                }
+                Due.is("leastYarns of the least strength", x.leastYarns(fibre, strands, 1), 1);
+                Due.is("leastYarns of the most strength", x.leastYarns(fibre, strands, 50000), RopeWalk.NONE);
+            }
+        }
+    }
+
+    private static void promise18WhateverThereIs() {
+        Script.run("leastYarns of a rope that is laid now, whatever there is", """
+            leastYarns(0, 3, 172) = 1; leastYarns(0, 3, 173) = 2; set(TWIST, 32) = 30; leastYarns(0, 3, 180) = 1; leastYarns(0, 3, 181) = 2
+            set(SPLICE, 60) = 15; leastYarns(0, 3, 180) = 1; fibre(0, 1, 32) = 6032; leastYarns(0, 3, 3) = 1; leastYarns(0, 3, 4) = 2
+            leastYarns(0, 3, 120) = 40; leastYarns(0, 3, 121) = NONE; leastYarns(0, 4, 160) = 40; leastYarns(0, 4, 161) = NONE
+            fibre(0, 1, 60) = 132; leastYarns(0, 3, 1) = 1; leastYarns(0, 3, 2) = 2; leastYarns(0, 3, 52) = 40     // 1.32, 2.64, 52.8
+            leastYarns(0, 3, 53) = NONE""");
+    }
+
+    private static void promise19AsFillDoes() {
+        int[][] orders = {{1, 20, 3, 0}, {1, 33, 20, 0}, {255, 7, 20, 1}, {300, 95, 1, 1}, {1, 94, 2, 1}, {301, 1, 1, 1}, {1, 1, 20, 0}, {1, 500, 1, 1}};
+        for (int[] order : orders) {
+            RopeWalk x = Walks.withPieces(50, 50, 95, 40, 21, 30);
+            x.join(0, 1);
+            x.order(0, order[0], order[1], order[2], order[3], 3);
+            String of = " of " + order[2] + " ropes of " + order[1];
+            int[] would = {x.wouldFill(0, 0), x.wouldFill(0, 1), x.wouldFill(0, 2)};
+            int answer = x.fill(0);
+            Due.is("wouldFill 0" + of, would[0], answer > 0 ? answer : 0);
+            Due.is("wouldFill 1" + of, would[1], x.account(0, 5));
+            Due.is("wouldFill 2" + of, would[2], x.count(1));
+        }
+    }
+
+    private static void promise19NoneAndAll() {
+        Script.run("what would be left: all, or none", Walks.withPieces(50, 49, 40), """
+            order(0, 1, 51, 1, 0, 0) = 0; wouldFill(0, 0) = 0; wouldFill(0, 1) = 0; wouldFill(0, 2) = 3
+            order(0, 1, 40, 20, 0, 0) = 1; wouldFill(1, 0) = 3; wouldFill(1, 1) = 41; wouldFill(1, 2) = 1
+            set(SHORTEST, 11) = 10; wouldFill(1, 0) = 3; wouldFill(1, 1) = 86; wouldFill(1, 2) = 0
+            order(1, 1, 1, 1, 1, 0) = 2; wouldFill(2, 0) = 0; wouldFill(2, 1) = 0; wouldFill(2, 2) = 3
+            wouldFill(0, 3) = BAD_VALUE; wouldFill(0, -1) = BAD_VALUE; wouldFill(3, 0) = NO_SUCH; wouldFill(3, 3) = NO_SUCH; wouldFill(-1, 0) = NO_SUCH
+            fill(1) = 3; account(0, 5) = 86; count(1) = 0""");
+        Script.run("what would be left of nothing", "order(0, 1, 1, 1, 0, 0) = 0; wouldFill(0, 0) = 0; wouldFill(0, 1) = 0; wouldFill(0, 2) = 0");
+    }
+
+    private static void promise20AsFarAsItGoes() {
+        Script.run("each of them as far as it goes", Walks.withPieces(100), """
+            order(0, 1, 30, 20, 0, 10) = 0; bestSet(0) = 1; bestSet(1) = 30; order(0, 1, 10, 20, 0, 3) = 1; bestSet(0) = 3; bestSet(1) = 33
+            order(0, 1, 100, 1, 0, 32) = 2; bestSet(0) = 3; bestSet(1) = 33; drop(2); order(0, 1, 100, 1, 0, 33) = 2; bestSet(0) = 4; bestSet(1) = 33
+            drop(2); order(0, 1, 100, 1, 0, 34) = 2; bestSet(0) = 4; bestSet(1) = 34; order(0, 1, 1, 20, 0, 100000) = 3
+            bestSet(0) = 8; bestSet(1) = 2000000; lengths() = "100"; count(5) = 0""");
+        Script.run("the lower ones first", Walks.withPieces(60, 100), """
+            order(0, 1, 60, 1, 0, 5) = 0; order(0, 1, 50, 2, 0, 4) = 1; bestSet(0) = 3; bestSet(1) = 13
+            drop(0); order(0, 1, 60, 1, 0, 5) = 1; bestSet(0) = 1; bestSet(1) = 8        // no 60 feet are left by the first
+            drop(0); order(0, 1, 61, 1, 0, 4) = 1; bestSet(0) = 3; bestSet(1) = 9
+            drop(0); order(0, 1, 60, 1, 0, 5) = 1; bestSet(0) = 3; bestSet(1) = 9""");
+    }
+
+    private static void promise20NothingIsGot() {
+        Script.run("0 without orders, and if nothing is got", Walks.withPieces(100), """
+            bestSet(0) = 0; bestSet(1) = 0; bestSet(-1) = BAD_VALUE; bestSet(2) = BAD_VALUE
+            order(0, 1, 10, 5, 0, 0) = 0; bestSet(0) = 0; bestSet(1) = 0; order(0, 301, 10, 5, 0, 100000) = 1; bestSet(0) = 0; bestSet(1) = 0
+            order(0, 300, 100, 1, 0, 1) = 2; bestSet(0) = 4; bestSet(1) = 1; fill(2) = 1; bestSet(0) = 0; bestSet(1) = 0""");
+    }
+
+    private static void promise21AtTheEnds() {
+        Script.run("feet of 1 to 5000", Walks.withPieces(2000, 2000), """
+            pass(1); lay(0, 3, 1, 1012) = 2; fewestJoined(0, 0) = BAD_VALUE; fewestJoined(0, 1) = 1; fewestJoined(0, 2000) = 1; fewestJoined(0, 2001) = 2
+            fewestJoined(0, 3994) = 2; fewestJoined(0, 3995) = 3; fewestJoined(0, 5000) = 3; fewestJoined(0, 5001) = BAD_VALUE
+            fewestJoined(2, 3006) = 2; fewestJoined(2, 3007) = 3; fewestJoined(2, 5000) = 3
+            test(2) = 300; fewestJoined(0, 5000) = NONE; fewestJoined(0, 4995) = 3; fewestJoined(3, 1) = NO_SUCH; fewestJoined(-1, 0) = NO_SUCH""");
+        Script.run("no longer than OVERLAP", Walks.withPieces(30, 31, 31, 30, 29), """
+            set(OVERLAP, 30) = 6; fewestJoined(0, 30) = 1; fewestJoined(0, 31) = NONE; fewestJoined(1, 31) = 1; fewestJoined(1, 32) = 2
+            fewestJoined(1, 33) = NONE; fewestJoined(4, 29) = 1; fewestJoined(4, 30) = NONE; set(OVERLAP, 29) = 30
+            fewestJoined(0, 31) = 2; fewestJoined(0, 32) = 2; fewestJoined(0, 33) = 3; fewestJoined(0, 34) = 3; fewestJoined(0, 35) = 4
+            fewestJoined(0, 36) = NONE; fewestJoined(4, 29) = 1; fewestJoined(4, 30) = NONE""");
+    }
+
+    private static void promise21OfOneKind() {
+        Script.run("of the fibre, the strands and the yarns of a piece, whatever its quality and splices", Walks.withPieces(50, 40, 41), """
+            lay(1, 3, 1, 500) = 3; lay(0, 4, 1, 500) = 4; lay(0, 3, 2, 500) = 5; fewestJoined(0, 85) = 2; fewestJoined(0, 86) = 3
+            fewestJoined(0, 119) = 3; fewestJoined(0, 120) = NONE; fewestJoined(3, 501) = NONE; fewestJoined(4, 501) = NONE; fewestJoined(5, 501) = NONE
+            set(TWIST, 10) = 50; lay(0, 3, 1, 60) = 6; piece(6, 5) = 40; fewestJoined(0, 104) = 2; fewestJoined(0, 105) = 3
+            join(1, 2) = 1; piece(1, 3) = 75; fewestJoined(0, 119) = 2; fewestJoined(1, 129) = 2; fewestJoined(1, 130) = 3; fewestJoined(5, 173) = 3
+            fewestJoined(5, 174) = NONE; lengths() = "50 75 500 500 500 60";""");
+    }
+
+    private static void promise22FirstAndLastDay() {
+        Script.run("today is the first of the days", """
+            finesIn(1) = 0; order(0, 1, 1, 1, 0, 0) = 0; finesIn(1) = 50; finesIn(2) = 100; finesIn(200) = 10000; drop(0)
+            order(0, 1, 1, 1, 2, 0) = 0; finesIn(1) = 0; finesIn(2) = 50; finesIn(200) = 9950; drop(0)
+            order(0, 1, 1, 20, 200, 0) = 0; finesIn(100) = 0; finesIn(101) = 1000; finesIn(102) = 2000; finesIn(200) = 100000
+            finesIn(0) = BAD_VALUE; finesIn(201) = BAD_VALUE; finesIn(MIN) = BAD_VALUE; finesIn(MAX) = BAD_VALUE
+            set(FINE, 0) = 50; finesIn(200) = 0; set(FINE, 500) = 0; finesIn(101) = 10000; count(6) = 100""");
+        Script.run("beyond day 3000", """
+            50 * pass(60); order(0, 1, 1, 2, 0, 0) = 0; finesIn(1) = 100; finesIn(200) = 20000; pass(1) = NOT_POSSIBLE; count(6) = 0""");
+        Script.run("the most of all orders", """
+            set(FINE, 500) = 50; 16 * order(0, 1, 1, 20, 0, 0); finesIn(1) = 160000; finesIn(200) = 32000000; pass(60) = 60; count(6) = 9600000""");
+    }
+
+    private static void promise22AsPassPays() {
+        RopeWalk x = new RopeWalk();
+        for (int i = 0; i < 16; i++) {
+            x.order(i % 3, 1, 1, 1 + i, 5 * i, 0);
+        }
+        for (int days = 1; days <= 60; days += days < 40 ? 3 : 1) {
+            int tells = x.finesIn(days);
+            int before = x.count(6);
+            x.pass(days);
+            Due.is("finesIn(" + days + ") before pass()", tells, x.count(6) - before);
+            x.undo();
+        }
     }
 }

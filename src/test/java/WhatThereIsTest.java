@@ -6,6 +6,11 @@ public final class WhatThereIsTest {
         promise14Count();
         promise15Account();
         promise15AllYarn();
+        promise12AtBothEnds();
+        promise13PiecesThatSuit();
+        promise14AtBothEnds();
+        promise14HoursThatAreLeft();
+        promise15AtBothEnds();
         Due.finish("WhatThereIsTest");
     }
 
@@ -107,16 +112,20 @@ public final class WhatThereIsTest {
             x.fill(0);
             x.test(i % 4);
             x.pass(1);
-            for (int one = 0; one < 3; one++) {
-                int all = 0;
-                for (int what = 1; what < 6; what++) {
-                    all += x.account(one, what);
-                }
-                Due.is("all yarn of fibre " + one + " in step " + i, all, x.account(one, 0));
-                Due.is("yarn in pieces of fibre " + one + " in step " + i, inPieces(x, one), x.account(one, 2));
+            allYarn(x, fibre, "in step " + i);
+            if (i % 5 == 4) {
+                Due.is("yarn in pieces of fibre " + fibre + " in step " + i, inPieces(x, fibre), x.account(fibre, 2));
             }
         }
         Due.holds("some yarn was sold, tested and lost", x.account(0, 3) > 0 && x.account(0, 4) > 0 && x.account(0, 5) > 0);
+    }
+
+    private static void allYarn(RopeWalk x, int fibre, String when) {
+        int all = 0;
+        for (int what = 1; what < 6; what++) {
+            all += x.account(fibre, what);
+        }
+        Due.is("all yarn of fibre " + fibre + " " + when, all, x.account(fibre, 0));
     }
 
     private static int inPieces(RopeWalk x, int fibre) {
@@ -125,5 +134,47 @@ public final class WhatThereIsTest {
             all += x.piece(piece, 0) == fibre ? x.piece(piece, 4) : 0;
         }
         return all;
+    }
+
+    private static void promise12AtBothEnds() {
+        Script.run("numbers of pieces, and what 0 to 7", Walks.withPieces(2000, 1), """
+            piece(0, -1) = BAD_VALUE; piece(0, 0) = 0; piece(0, 7) = 300; piece(0, 8) = BAD_VALUE; piece(0, MIN) = BAD_VALUE; piece(0, MAX) = BAD_VALUE
+            piece(-1, 0) = NO_SUCH; piece(1, 3) = 1; piece(2, 3) = NO_SUCH; piece(2, -1) = NO_SUCH; piece(MIN, 8) = NO_SUCH
+            piece(0, 3) = 2000; piece(0, 4) = 9000; piece(1, 4) = 6; piece(1, 6) = 0""");
+        Script.run("no piece", "piece(0, 0) = NO_SUCH; piece(0, 8) = NO_SUCH; piece(-1, -1) = NO_SUCH");
+    }
+
+    private static void promise13PiecesThatSuit() {
+        RopeWalk x = Walks.plain();
+        for (int i = 0; i < 24; i++) {
+            x.lay(0, 3, 1, 20);
+        }
+        Script.run("the pieces that suit, none to all", x, """
+            order(0, 300, 20, 1, 0, 0) = 0; ofOrder(0, 7) = 24; order(0, 301, 20, 1, 0, 0) = 1; ofOrder(1, 7) = 0
+            test(5) = 300; ofOrder(0, 7) = 23; join(0, 1) = 0; ofOrder(0, 7) = 21; order(0, 255, 20, 1, 1, 0) = 2; ofOrder(2, 7) = 22
+            ofOrder(0, -1) = BAD_VALUE; ofOrder(0, 8) = BAD_VALUE; ofOrder(3, 7) = NO_SUCH; ofOrder(-1, 8) = NO_SUCH
+            ofOrder(0, MAX) = BAD_VALUE; ofOrder(MIN, MIN) = NO_SUCH; fill(0) = 1; ofOrder(0, 7) = 0; ofOrder(1, 7) = 21""");
+        Script.run("no order", "ofOrder(0, 0) = NO_SUCH; ofOrder(0, 8) = NO_SUCH; ofOrder(-1, -1) = NO_SUCH");
+    }
+
+    private static void promise14AtBothEnds() {
+        Script.run("what 0 to 24", """
+            count(-1) = BAD_VALUE; count(0) = 0; count(24) = 24; count(25) = BAD_VALUE; count(MIN) = BAD_VALUE; count(MAX) = BAD_VALUE
+            count(8) = 0; count(9) = 1000; count(18) = 50; count(19) = 60; count(21) = 30; count(22) = 32
+            set(FINE, 500); set(WALK, 2000); fibre(0, 200, 60); fibre(2, 1, 10)
+            count(9) = 2000; count(18) = 500; count(19) = 200; count(21) = 1; count(22) = 60; count(24) = 10; count(8) = 4""");
+    }
+
+    private static void promise14HoursThatAreLeft() {
+        Script.run("the hours that are left today, none at least", Walks.plain(), """
+            count(3) = 24; lay(0, 4, 1, 2000) = 0; count(3) = 8; lay(0, 4, 1, 1000) = 1; count(3) = 0; set(HOURS, 1) = 24; count(3) = 0
+            pass(1) = 1; count(3) = 1; join(0, 1) = 0; test(0) = 340; count(3) = 1""");
+    }
+
+    private static void promise15AtBothEnds() {
+        Script.run("fibres 0 to 2, what 0 to 5", """
+            spin(2, 7) = 7; account(2, 0) = 7; account(2, 1) = 7; account(2, 5) = 0; account(2, 6) = BAD_VALUE; account(2, -1) = BAD_VALUE
+            account(3, 0) = NO_SUCH; account(-1, 0) = NO_SUCH; account(3, 6) = NO_SUCH; account(MIN, MAX) = NO_SUCH; account(0, MAX) = BAD_VALUE
+            account(0, 0) = 0; account(1, 1) = 0""");
     }
 }

@@ -20,6 +20,14 @@ public final class YarnAndRopesTest {
         promise7Strength();
         promise7WrongInputs();
         promise7ALotOfYarn();
+        promise4Brim();
+        promise5AllLimitsAtOnce();
+        promise5BothEndsOfEachArgument();
+        promise6BothTheSameOrNone();
+        promise6SplicesOfBothAndOneMore();
+        promise6NothingElseBoundsIt();
+        promise6YarnOfBoth();
+        promise7AsLongAsTest();
         Due.finish("YarnAndRopesTest");
     }
 
@@ -333,5 +341,69 @@ public final class YarnAndRopesTest {
         x.fill(0);
         Due.is("sold", x.account(0, 3), 120324);
         Due.is("left", x.piece(0, 4), 4679676);
+    }
+
+    private static void promise4Brim() {
+        Script.run("what is in the store then, 9000000 at most", """
+            spin(0, 1) = 1; spin(0, 2999999) = 3000000; spin(0, 3000000) = 6000000; spin(0, 2999999) = 8999999
+            spin(0, 2) = NOT_POSSIBLE; spin(0, 3000000) = NOT_POSSIBLE; spin(0, 3000001) = BAD_VALUE; spin(0, 0) = BAD_VALUE
+            spin(0, 1) = 9000000; spin(0, 1) = NOT_POSSIBLE; spin(1, 3000000) = 3000000; count(8) = 6""");
+    }
+
+    private static void promise5AllLimitsAtOnce() {
+        String ready = "set(LAY, 0); set(TWIST, 50); set(WALK, 100); set(SPEED, 100); set(HOURS, 4); spin(0, 1199)\n";
+        Script.run("the last foot, the last yarn and the last hour", ready + """
+            lay(0, 4, 2, 100) = NOT_POSSIBLE; spin(0, 1) = 1200; lay(0, 4, 2, 101) = NOT_POSSIBLE
+            set(WALK, 1000) = 100; lay(0, 4, 2, 101) = NOT_POSSIBLE; set(WALK, 100) = 1000
+            set(HOURS, 3) = 4; lay(0, 4, 2, 100) = NOT_POSSIBLE; longest(0, 4, 2) = 75; set(HOURS, 4) = 3; longest(0, 4, 2) = 100
+            lay(0, 4, 2, 100) = 0; account(0, 1) = 0; count(3) = 0; piece(0, 4) = 1200""");
+        Script.run("one foot of strands too many, and all else there is", ready + """
+            spin(0, 9000) = 10199; set(HOURS, 24) = 4; set(LAY, 1) = 0; lay(0, 4, 2, 100) = NOT_POSSIBLE; lay(0, 4, 2, 99) = 0""");
+    }
+
+    private static void promise5BothEndsOfEachArgument() {
+        Script.run("fibres 0 to 2, strands 3 and 4, yarns 1 to 40, feet 1 to 2000", Walks.plain(), """
+            lay(-1, 3, 1, 1) = NO_SUCH; lay(0, 3, 1, 1) = 0; lay(2, 3, 1, 1) = 1; lay(3, 3, 1, 1) = NO_SUCH
+            lay(0, 2, 1, 1) = BAD_VALUE; lay(0, 4, 1, 1) = 2; lay(0, 5, 1, 1) = BAD_VALUE
+            lay(0, 3, 0, 1) = BAD_VALUE; lay(0, 3, 40, 1) = 3; lay(0, 3, 41, 1) = BAD_VALUE
+            lay(0, 3, 1, 0) = BAD_VALUE; lay(0, 3, 1, 2000) = 4; lay(0, 3, 1, 2001) = BAD_VALUE; lengths() = "1 1 1 1 2000"
+            piece(0, 4) = 6; piece(1, 0) = 2; piece(2, 4) = 8; piece(3, 4) = 240; piece(4, 4) = 9000""");
+    }
+
+    private static void promise6BothTheSameOrNone() {
+        Script.run("no such piece, or both are the same", Walks.withPieces(50, 6), """
+            join(0, 0) = NO_SUCH; join(1, 1) = NO_SUCH; join(0, 2) = NO_SUCH; join(2, 0) = NO_SUCH; join(2, 2) = NO_SUCH
+            join(-1, 0) = NO_SUCH; join(0, -1) = NO_SUCH; join(1, 2) = NO_SUCH; join(1, -1) = NO_SUCH; join(0, 1) = NOT_POSSIBLE
+            join(1, 0) = NOT_POSSIBLE; count(8) = 6; lengths() = "50 6";""");
+    }
+
+    private static void promise6SplicesOfBothAndOneMore() {
+        Script.run("the splices of both, and one more", Walks.withPieces(50, 50, 50, 50, 50, 50, 50), """
+            join(0, 1) = 0; piece(0, 6) = 1     // none and none
+            join(0, 1) = 0; piece(0, 6) = 2     // one and none
+            join(1, 2) = 1; piece(1, 6) = 1; join(1, 2) = 1; piece(1, 6) = 2
+            join(2, 1) = 1; piece(1, 6) = 3     // none and two
+            join(0, 1) = 0; piece(0, 6) = 6; count(1) = 1; piece(0, 3) = 314; piece(0, 4) = 1575""");
+    }
+
+    private static void promise6NothingElseBoundsIt() {
+        Script.run("a joined rope may be longer than the walk, and takes no hours and no yarn", Walks.withPieces(2000, 2000), """
+            count(3) = 0; set(WALK, 100) = 2000; account(0, 1) = 2982000; join(1, 0) = 0; piece(0, 3) = 3994; piece(0, 4) = 18000
+            account(0, 1) = 2982000; account(0, 2) = 18000; account(0, 5) = 0; count(3) = 0; count(1) = 1""");
+    }
+
+    private static void promise6YarnOfBoth() {
+        Script.run("the yarn of both, also in what overlaps", Walks.withPieces(21, 50), """
+            piece(0, 4) = 96; piece(1, 4) = 225; test(0) = 300; piece(0, 4) = 74; join(0, 1) = 0; piece(0, 4) = 299; piece(0, 3) = 60
+            account(0, 2) = 299; account(0, 4) = 22; set(OVERLAP, 30) = 6; lay(0, 3, 1, 31) = 1; join(1, 0) = 0
+            piece(0, 3) = 61; piece(0, 4) = 440; account(0, 2) = 440; account(0, 5) = 0""");
+    }
+
+    private static void promise7AsLongAsTest() {
+        Script.run("as long as TEST, a foot shorter, a foot longer", Walks.withPieces(30, 29, 31, 40, 39), """
+            set(TEST, 30) = 5; test(1) = NOT_POSSIBLE; test(0) = 300; lengths() = "29 31 40 39"; account(0, 4) = 135; account(0, 5) = 0
+            test(1) = 300; lengths() = "29 40 39"; account(0, 5) = 5; test(1) = 300; lengths() = "29 10 39"; account(0, 5) = 5
+            test(2) = 300; lengths() = "29 10"; account(0, 5) = 46; test(0) = NOT_POSSIBLE; test(1) = NOT_POSSIBLE; test(2) = NO_SUCH
+            set(TEST, 29) = 30; test(0) = 300; lengths() = "10"; test(1) = NO_SUCH; set(TEST, 10) = 29; test(0) = 300; test(0) = NO_SUCH""");
     }
 }
