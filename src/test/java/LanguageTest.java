@@ -10,9 +10,9 @@ public final class LanguageTest {
     private static final Path SOURCE = Path.of("src/main/java/RopeWalk.java");
     private static final String[] RULED_OUT = {
         "\\bthrow\\b", "\\bthrows\\b", "\\btry\\b", "\\bcatch\\b", "\\bfinally\\b", "\\bsynchronized\\b", "\\bassert\\b",
-        "\\bimport\\b", "\\bpackage\\b", "\\bprotected\\b", "\\bvolatile\\b", "\\bnative\\b", "\\btransient\\b", "->", "::",
-        "Exact\\(", "\\bnanoTime\\b", "\\bcurrentTimeMillis\\b", "\\bRandom\\b", "\\bhashCode\\b", "\\btoString\\b",
-        "\\bequals\\b", "\\bObject\\b", "\\bstatic \\{", "\\bvar\\b", "\\bmain\\b", "\\[\\]\\[\\]\\[", "@"
+        "\\bimport (?!java\\.util\\.(ArrayList|List|Arrays|Iterator);)", "\\bpackage\\b", "\\bprotected\\b", "\\bvolatile\\b", "\\bnative\\b",
+        "::", "Exact\\(", "\\bnanoTime\\b", "\\bcurrentTimeMillis\\b", "\\bRandom\\b", "\\bThread\\b", "\\bhashCode\\b", "\\bgetClass\\b",
+        "\\bObject\\b", "\\bstatic \\{", "\\[\\]\\[\\]\\[", "\\) -> ", "\"\" \\+|\\+ \"\""
     };
     private static final int MOST_LINES = 60;
 

@@ -20,14 +20,13 @@ public final class RoomTest {
 
     public static void main(String[] args) {
         com.sun.management.ThreadMXBean bean = (com.sun.management.ThreadMXBean) ManagementFactory.getThreadMXBean();
-        long me = Thread.currentThread().getId();
         for (int run = 0; run < RUNS; run++) {
-            long before = bean.getThreadAllocatedBytes(me);
+            long before = bean.getCurrentThreadAllocatedBytes();
             run(run % 2 == 0 ? 32 : 64);
-            long bytes = bean.getThreadAllocatedBytes(me) - before;
+            long bytes = bean.getCurrentThreadAllocatedBytes() - before;
             Due.holds("run " + run + " made objects of " + bytes + " bytes", bytes < MOST_BYTES);
         }
-        dearestRun(bean, me);
+        dearestRun(bean);
         Due.finish("RoomTest");
     }
 
@@ -44,8 +43,8 @@ public final class RoomTest {
     }
 
     /** bestSet with all pieces and ten orders that each get two ropes, again and again. */
-    private static void dearestRun(com.sun.management.ThreadMXBean bean, long me) {
-        long before = bean.getThreadAllocatedBytes(me);
+    private static void dearestRun(com.sun.management.ThreadMXBean bean) {
+        long before = bean.getCurrentThreadAllocatedBytes();
         RopeWalk x = Walks.plain();
         for (int i = 0; i < 24; i++) {
             x.lay(0, 3, 1, 20);
@@ -56,7 +55,7 @@ public final class RoomTest {
         for (int i = 0; i < 460; i++) {
             Due.is("bestSet(1)", x.bestSet(1), 2046);
         }
-        long bytes = bean.getThreadAllocatedBytes(me) - before;
+        long bytes = bean.getCurrentThreadAllocatedBytes() - before;
         Due.holds("the dearest run made objects of " + bytes + " bytes", bytes < MOST_BYTES);
     }
 

@@ -32,6 +32,7 @@ public final class WhatIfTest {
         promise21OfOneKind();
         promise22FirstAndLastDay();
         promise22AsPassPays();
+        promise20EndsAndSplices();
         Due.finish("WhatIfTest");
     }
 
@@ -556,5 +557,15 @@ public final class WhatIfTest {
             Due.is("finesIn(" + days + ") before pass()", tells, x.count(6) - before);
             x.undo();
         }
+    }
+
+    private static void promise20EndsAndSplices() {
+        Script.run("an end that a lower one leaves is not sold to a higher one", Walks.withPieces(25), """
+            order(0, 1, 20, 1, 0, 5) = 0; order(0, 1, 5, 1, 0, 3) = 1; bestSet(0) = 1; bestSet(1) = 5
+            set(SHORTEST, 5) = 10; bestSet(0) = 3; bestSet(1) = 8; set(SHORTEST, 6) = 5; bestSet(0) = 1; bestSet(1) = 5; account(0, 5) = 0""");
+        Script.run("what suits an order suits it in a set too", Walks.withPieces(50, 50), """
+            join(0, 1) = 0; lay(1, 3, 1, 40) = 1; order(0, 1, 40, 2, 0, 9) = 0; bestSet(0) = 0; order(0, 255, 40, 3, 1, 7) = 1; bestSet(0) = 2
+            bestSet(1) = 14; order(0, 256, 40, 3, 1, 8) = 2; order(1, 75, 40, 3, 0, 1) = 3; order(1, 76, 40, 3, 0, 2) = 4; bestSet(0) = 10
+            bestSet(1) = 15; set(SPLICE, 14) = 15; bestSet(0) = 12; bestSet(1) = 17""");
     }
 }

@@ -28,6 +28,8 @@ public final class YarnAndRopesTest {
         promise6NothingElseBoundsIt();
         promise6YarnOfBoth();
         promise7AsLongAsTest();
+        promise6DifferInOne();
+        promise6NoLongerThanOverlap();
         Due.finish("YarnAndRopesTest");
     }
 
@@ -405,5 +407,21 @@ public final class YarnAndRopesTest {
             test(1) = 300; lengths() = "29 40 39"; account(0, 5) = 5; test(1) = 300; lengths() = "29 10 39"; account(0, 5) = 5
             test(2) = 300; lengths() = "29 10"; account(0, 5) = 46; test(0) = NOT_POSSIBLE; test(1) = NOT_POSSIBLE; test(2) = NO_SUCH
             set(TEST, 29) = 30; test(0) = 300; lengths() = "10"; test(1) = NO_SUCH; set(TEST, 10) = 29; test(0) = 300; test(0) = NO_SUCH""");
+    }
+
+    private static void promise6DifferInOne() {
+        Script.run("they differ in fibre, strands or yarns", Walks.plain(), """
+            lay(0, 3, 4, 50) = 0; lay(1, 3, 4, 50) = 1; lay(0, 4, 4, 50) = 2; lay(0, 3, 5, 50) = 3; lay(0, 4, 3, 50) = 4; lay(2, 3, 4, 50) = 5
+            join(0, 1) = NOT_POSSIBLE; join(0, 2) = NOT_POSSIBLE; join(0, 3) = NOT_POSSIBLE; join(0, 4) = NOT_POSSIBLE; join(4, 0) = NOT_POSSIBLE
+            join(5, 0) = NOT_POSSIBLE; join(1, 5) = NOT_POSSIBLE; fewestJoined(0, 51) = NONE; fewestJoined(4, 51) = NONE
+            lay(0, 4, 3, 50) = 6; join(6, 0) = NOT_POSSIBLE; join(6, 4) = 4; count(1) = 6""");
+    }
+
+    private static void promise6NoLongerThanOverlap() {
+        Script.run("one of them is no longer than OVERLAP", Walks.withPieces(7, 6, 5, 1, 100, 7), """
+            join(0, 1) = NOT_POSSIBLE; join(1, 0) = NOT_POSSIBLE; join(4, 2) = NOT_POSSIBLE; join(2, 4) = NOT_POSSIBLE; join(3, 4) = NOT_POSSIBLE
+            join(4, 3) = NOT_POSSIBLE; join(1, 2) = NOT_POSSIBLE; join(2, 3) = NOT_POSSIBLE; lengths() = "7 6 5 1 100 7"
+            join(5, 0) = 0; lengths() = "8 6 5 1 100"; set(OVERLAP, 5) = 6; join(1, 2) = NOT_POSSIBLE; join(4, 1) = 1; lengths() = "8 101 5 1"
+            set(OVERLAP, 4) = 5; join(2, 1) = 1; lengths() = "8 102 1"; set(OVERLAP, 1) = 4; join(0, 2) = NOT_POSSIBLE; join(0, 1) = 0; lengths() = "109 1";""");
     }
 }
