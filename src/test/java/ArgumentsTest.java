@@ -1,5 +1,5 @@
 import java.util.Arrays;
-import java.util.function.UnaryOperator;
+import java.util.function.Consumer;
 
 /**
  * Every argument of every call: the ends of its range are taken, the values just outside and far away are refused
@@ -78,18 +78,13 @@ public final class ArgumentsTest {
     }
 
     private static void change(String name, Call call, int[] good, Range... ranges) {
-        atTheEnds(name, call, good, ranges, x -> {
-            Due.is(name + " is a change that undo() takes back", x.undo(), 5);
-            return x;
-        });
+        atTheEnds(name, call, good, ranges, x -> Due.is(name + " is a change that undo() takes back", x.undo(), 5));
         refused(name, call, good, ranges);
     }
 
     private static void question(String name, Call call, int[] good, Range... ranges) {
-        atTheEnds(name, call, good, ranges, x -> {
-            Due.is(name + " changes nothing", Walks.seen(x), Walks.seen(Walks.ready()));
-            return x;
-        });
+        String before = Walks.seen(Walks.ready());
+        atTheEnds(name, call, good, ranges, x -> Due.is(name + " changes nothing", Walks.seen(x), before));
         refused(name, call, good, ranges);
         Due.is(name + " leaves all as it was", Walks.whole(() -> behind(call, good)), UNCHANGED);
     }
@@ -106,14 +101,14 @@ public final class ArgumentsTest {
         return arguments;
     }
 
-    private static void atTheEnds(String name, Call call, int[] good, Range[] ranges, UnaryOperator<RopeWalk> then) {
+    private static void atTheEnds(String name, Call call, int[] good, Range[] ranges, Consumer<RopeWalk> then) {
         for (int i = 0; i < ranges.length; i++) {
             for (int value : new int[] {ranges[i].least, ranges[i].most}) {
                 RopeWalk x = Walks.ready();
                 int answer = call.on(x, with(good, i, value));
                 String what = name + Arrays.toString(with(good, i, value)) + " = " + answer;
                 Due.holds(what + " is no error", answer >= 0 || answer == RopeWalk.NONE);
-                then.apply(x);
+                then.accept(x);
             }
         }
     }

@@ -186,7 +186,7 @@ public final class LimitsTest {
         }
     }
 
-    /** A walk with two states in its history, that were recorded behind some others were undone, and changes of a kind. */
+    /** A walk with two states in its history (there had been more, that were undone), and then changes of one kind. */
     private static RopeWalk changed(String call, int times) {
         return Script.run(call, Walks.withPieces(90, 91, 92, 93, 94, 95, 96, 97),
             "12 * order(0, 1, 10, 1, 0, 0); drop(0); save(0); 4 * undo(); 2 * order(0, 1, 5, 1, 0, 0); 2 * undo()\n"
